@@ -426,18 +426,13 @@ public final class ChairNames {
             }
         }
 
-        /** Drops the orders that were given when more marks were there; answers how many. */
+        /** Drops the orders that were given when more marks were there, always the last; answers how many. */
         int dropGivenAfter(int marksThen) {
-            int left = 0;
             int before = size;
-            for (int i = 0; i < before && i < MOST_ORDERS; i++) {
-                if (marks[i] <= marksThen) {
-                    move(i, left);
-                    left++;
-                }
+            while (size > 0 && size <= MOST_ORDERS && marks[size - 1] > marksThen) {
+                size--;
             }
-            size = left;
-            return before - left;
+            return before - size;
         }
 
         void forgetFirstMark() {
