@@ -1,5 +1,9 @@
 /** Counts the answers that are not as due, and tells them. */
 final class Checks {
+    private static final int MOST_TOLD = 40;
+
+    /** The call that was made last, for telling which answer was wrong. */
+    static String lastCall = "";
     private static int wrong = 0;
 
     private Checks() {
@@ -19,7 +23,7 @@ final class Checks {
 
     static void tell(String fault) {
         wrong++;
-        if (wrong <= 40) {
+        if (wrong <= MOST_TOLD) {
             System.out.println(fault);
         }
     }
@@ -34,48 +38,5 @@ final class Checks {
         if (wrong != 0) {
             System.exit(1);
         }
-    }
-
-    static void typeAll(ChairNames x, String text) {
-        for (int i = 0; i < text.length(); i++) {
-            x.type(text.charAt(i));
-        }
-    }
-
-    /** All that an object tells without being changed, for comparing it before and after a call. */
-    static String all(ChairNames x) {
-        StringBuilder s = new StringBuilder();
-        for (int name = 0; name < 8; name++) {
-            s.append("\n name ").append(name).append(':');
-            for (int what = 0; what <= 4; what++) {
-                s.append(' ').append(x.nameOf(name, what));
-            }
-            s.append(" known in ").append(x.knownIn(name));
-        }
-        for (int chair = 0; chair < 7; chair++) {
-            s.append("\n chair ").append(chair).append(':');
-            for (int what = 0; what <= 5; what++) {
-                s.append(' ').append(x.chairOf(chair, what));
-            }
-        }
-        for (int index = 0; index < 6; index++) {
-            s.append("\n order ").append(index).append(':');
-            for (int what = 0; what <= 6; what++) {
-                s.append(' ').append(x.orderOf(index, what));
-            }
-        }
-        for (int mark = 0; mark < 3; mark++) {
-            s.append("\n mark ").append(mark).append(':');
-            for (int name = 0; name < 8; name++) {
-                s.append(' ').append(x.markOf(mark, name, 0)).append('/').append(x.markOf(mark, name, 1));
-            }
-        }
-        s.append("\n counts:");
-        for (int what = 0; what <= 23; what++) {
-            s.append(' ').append(x.count(what));
-        }
-        s.append("\n fault: ").append(x.fault(0)).append(' ').append(x.fault(1)).append(' ').append(x.fault(2));
-        s.append(" idle in ").append(x.idleIn());
-        return s.toString();
     }
 }

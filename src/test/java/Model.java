@@ -495,11 +495,7 @@ final class Model {
         }
     }
 
-    // ---- all calls, by number
-
-    static final String[] CALLS = {"begin", "put", "copy", "order", "tick", "set", "mark", "keep", "back", "markOf",
-        "nameOf", "chairOf", "orderOf", "count", "sends", "idleIn", "knownIn", "undo", "type", "clearText", "fault",
-        "play"};
+    // ---- all calls, by their numbers in Calls
 
     int call(int kind, int a, int b, int c, int d) {
         State before = now.copy();

@@ -1,7 +1,6 @@
 /** Long mixed runs of calls, each answer compared with that of the model; the same runs each time. */
 public final class ModelTests {
     private static final int RUNS = 4000;
-    private static final int CALLS_OF_A_RUN = 512;
     private static final int[] EDGES = {Integer.MIN_VALUE, -10001, -1, 0, 1, 2, 3, 4, 5, 6, 7, 8, 9, 10, 11, 12, 19, 20,
         23, 24, 31, 32, 99, 100, 126, 127, 9999, 10000, 50000, 65536, Integer.MAX_VALUE};
     private static final String SIGNS = "abchi 0129;;; AZ~@#";
@@ -16,7 +15,7 @@ public final class ModelTests {
         this.seed = seed;
         this.x = new ChairNames();
         this.model = new Model();
-        this.left = CALLS_OF_A_RUN;
+        this.left = Calls.PROMISED;
     }
 
     public static void main(String[] args) {
@@ -34,7 +33,7 @@ public final class ModelTests {
         while (left > 0 && Checks.allRight()) {
             int dice = below(100);
             if (dice < 3) {
-                call(below(22), wild(), wild(), wild(), wild());
+                call(below(Calls.kinds()), wild(), wild(), wild(), wild());
             } else if (dice < (mood == 1 ? 20 : 5)) {
                 text();
             } else if (dice < 55) {
@@ -140,41 +139,13 @@ public final class ModelTests {
             return;
         }
         left--;
-        log.append(Model.CALLS[kind]).append(' ').append(a).append(' ').append(b).append(' ').append(c).append(' ')
-            .append(d).append('\n');
-        int got = ask(kind, a, b, c, d);
+        log.append(Calls.told(kind, a, b, c, d)).append('\n');
+        int got = Calls.make(x, kind, a, b, c, d);
         int want = model.call(kind, a, b, c, d);
         if (got != want) {
             System.out.println(log);
         }
-        Checks.due(Model.CALLS[kind], got, want);
-    }
-
-    private int ask(int kind, int a, int b, int c, int d) {
-        switch (kind) {
-            case 0: return x.begin(a);
-            case 1: return x.put(a, b);
-            case 2: return x.copy(a, b);
-            case 3: return x.order(a, b, c, d);
-            case 4: return x.tick(a);
-            case 5: return x.set(a, b);
-            case 6: return x.mark();
-            case 7: return x.keep();
-            case 8: return x.back(a);
-            case 9: return x.markOf(a, b, c);
-            case 10: return x.nameOf(a, b);
-            case 11: return x.chairOf(a, b);
-            case 12: return x.orderOf(a, b);
-            case 13: return x.count(a);
-            case 14: return x.sends(a, b, c);
-            case 15: return x.idleIn();
-            case 16: return x.knownIn(a);
-            case 17: return x.undo();
-            case 18: return x.type(a);
-            case 19: return x.clearText();
-            case 20: return x.fault(a);
-            default: return x.play();
-        }
+        Checks.due(Calls.told(kind, a, b, c, d), got, want);
     }
 
     /** The next number of a fixed row, from 0 to bound - 1. */

@@ -22,8 +22,8 @@ public final class PromiseTests {
     }
 
     /** A call that returns an error changes nothing; the caller makes it between before and this. */
-    private static void unchanged(ChairNames x, String before) {
-        Checks.same(promise + ": after an error", Checks.all(x), before);
+    private static void unchanged(Subject x, String before) {
+        Checks.same(promise + ": after an error", x.all(), before);
     }
 
     public static void main(String[] args) {
@@ -65,7 +65,7 @@ public final class PromiseTests {
 
     private static void promise1NewObject() {
         promise = "1";
-        ChairNames x = new ChairNames();
+        Subject x = new Subject();
         int[] counts = {5, 5, 0, 0, 0, 0, 0, 0, 0, 0, 0, 0};
         for (int i = 0; i < counts.length; i++) {
             due("count(" + i + ")", x.count(i), counts[i]);
@@ -87,9 +87,9 @@ public final class PromiseTests {
 
     private static void promise2Begin() {
         promise = "2";
-        ChairNames x = new ChairNames();
+        Subject x = new Subject();
         for (int chairs : new int[] {2, 8, 0, -1, Integer.MIN_VALUE, Integer.MAX_VALUE}) {
-            String before = Checks.all(x);
+            String before = x.all();
             due("begin(" + chairs + ")", x.begin(chairs), INVALID);
             unchanged(x, before);
         }
@@ -123,7 +123,7 @@ public final class PromiseTests {
 
     private static void promise3Put() {
         promise = "3";
-        ChairNames x = new ChairNames();
+        Subject x = new Subject();
         due("put(a, 9999)", x.put(A, 9999), 0);
         due("put(b, 0)", x.put(B, 0), 1);
         due("value", x.nameOf(A, 0), 9999);
@@ -134,7 +134,7 @@ public final class PromiseTests {
         due("put(a, 6), the version is c's still", x.put(A, 6), 3);
         due("c's", x.nameOf(C, 0), 5);
         due("put(c, 7) on the lowest", x.put(C, 7), 0);
-        String before = Checks.all(x);
+        String before = x.all();
         for (int name : NO_NAMES) {
             due("put(" + name + ", 0)", x.put(name, 0), INVALID);
         }
@@ -146,7 +146,7 @@ public final class PromiseTests {
 
     private static void promise3LongestUnusedIsSentOut() {
         promise = "3";
-        ChairNames x = new ChairNames();
+        Subject x = new Subject();
         x.begin(4);
         x.put(A, 10);
         x.put(B, 11);
@@ -172,7 +172,7 @@ public final class PromiseTests {
 
     private static void promise3WhatIsNotSentOut() {
         promise = "3";
-        ChairNames x = new ChairNames();
+        Subject x = new Subject();
         x.begin(4);
         x.put(A, 1);
         x.mark();
@@ -184,7 +184,7 @@ public final class PromiseTests {
         due("order(add, f, e, e)", x.order(ADD, F, E, E), IMPOSSIBLE);
         x.put(E, 6);
         x.mark();
-        String before = Checks.all(x);
+        String before = x.all();
         due("no chair", x.put(F, 7), IMPOSSIBLE);
         due("no chair for a name that sits", x.put(A, 7), IMPOSSIBLE);
         unchanged(x, before);
@@ -207,7 +207,7 @@ public final class PromiseTests {
 
     private static void promise4Copy() {
         promise = "4";
-        ChairNames x = new ChairNames();
+        Subject x = new Subject();
         x.put(A, 40);
         x.put(B, 41);
         due("copy(b, a)", x.copy(B, A), 0);
@@ -221,7 +221,7 @@ public final class PromiseTests {
         due("it is known", x.nameOf(C, 0), 0);
         due("copy(a, b) again", x.copy(A, B), 0);
         due("both have it", x.chairOf(0, 1), 3);
-        String before = Checks.all(x);
+        String before = x.all();
         for (int name : NO_NAMES) {
             due("copy(" + name + ", a)", x.copy(name, A), INVALID);
             due("copy(a, " + name + ")", x.copy(A, name), INVALID);
@@ -233,7 +233,7 @@ public final class PromiseTests {
 
     private static void promise4CopyWithoutFreeChairs() {
         promise = "4";
-        ChairNames x = new ChairNames();
+        Subject x = new Subject();
         x.begin(3);
         x.put(A, 1);
         x.put(B, 2);
@@ -244,7 +244,7 @@ public final class PromiseTests {
         due("sent out", x.count(8), 1);
         due("b's value will be e's", x.nameOf(B, 4), 0);
         x.mark();
-        String before = Checks.all(x);
+        String before = x.all();
         due("copy(a, f)", x.copy(A, F), IMPOSSIBLE);
         unchanged(x, before);
         due("copy(a, c)", x.copy(A, C), 2);
@@ -253,7 +253,7 @@ public final class PromiseTests {
 
     private static void promise5Order() {
         promise = "5";
-        ChairNames x = new ChairNames();
+        Subject x = new Subject();
         x.begin(7);
         x.put(A, 9999);
         x.put(B, 2);
@@ -281,7 +281,7 @@ public final class PromiseTests {
 
     private static void promise5SittingDown() {
         promise = "5";
-        ChairNames x = new ChairNames();
+        Subject x = new Subject();
         x.begin(3);
         x.put(A, 5);
         x.put(B, 6);
@@ -309,7 +309,7 @@ public final class PromiseTests {
 
     private static void promise5SendingOut() {
         promise = "5";
-        ChairNames x = new ChairNames();
+        Subject x = new Subject();
         x.begin(4);
         x.put(A, 1);
         x.put(B, 2);
@@ -341,7 +341,7 @@ public final class PromiseTests {
     }
 
     private static void bothReadAreUsed() {
-        ChairNames x = new ChairNames();
+        Subject x = new Subject();
         for (int name = 0; name < 8; name += 7) {
             x.begin(3);
             x.put(name, 1);
@@ -377,13 +377,13 @@ public final class PromiseTests {
 
     private static void promise5Errors() {
         promise = "5";
-        ChairNames x = new ChairNames();
+        Subject x = new Subject();
         x.begin(7);
         x.put(A, 3);
         for (int i = 0; i < 6; i++) {
             due("order " + i, x.order(ADD, B, A, A), i + 1);
         }
-        String before = Checks.all(x);
+        String before = x.all();
         due("a seventh, without a chair", x.order(ADD, C, A, A), IMPOSSIBLE);
         due("a seventh, that is no order", x.order(3, C, A, A), INVALID);
         for (int wrong : NO_NAMES) {
@@ -401,7 +401,7 @@ public final class PromiseTests {
      * with seven chairs none is left, so the limit never applies without NOT_POSSIBLE, which goes ahead.
      */
     private static void sixOrdersTakeAllChairs() {
-        ChairNames x = new ChairNames();
+        Subject x = new Subject();
         x.begin(7);
         x.set(2, 0);
         x.set(0, 9);
@@ -422,8 +422,8 @@ public final class PromiseTests {
 
     private static void promise6Tick() {
         promise = "6";
-        ChairNames x = new ChairNames();
-        String before = Checks.all(x);
+        Subject x = new Subject();
+        String before = x.all();
         for (int ticks : new int[] {0, -1, 100, Integer.MIN_VALUE, Integer.MAX_VALUE}) {
             due("tick(" + ticks + ")", x.tick(ticks), INVALID);
         }
@@ -458,7 +458,7 @@ public final class PromiseTests {
 
     private static void promise6Beginning() {
         promise = "6";
-        ChairNames x = new ChairNames();
+        Subject x = new Subject();
         x.begin(7);
         x.put(A, 3);
         x.order(MUL, B, A, A);
@@ -504,8 +504,8 @@ public final class PromiseTests {
 
     private static void promise6LastTime() {
         promise = "6";
-        ChairNames x = new ChairNames();
-        Checks.typeAll(x, "tick 99;tick 99;tick 99;tick 99;tick 99;tick 99;tick 99;tick 99;tick 99;tick 99;");
+        Subject x = new Subject();
+        x.typeAll("tick 99;tick 99;tick 99;tick 99;tick 99;tick 99;tick 99;tick 99;tick 99;tick 99;");
         for (int i = 0; i < 50; i++) {
             due("play()", x.play(), 10);
         }
@@ -533,13 +533,13 @@ public final class PromiseTests {
         int[] least = {1, 1, 0, 1};
         int[] most = {9, 9, 9, 3};
         int[] first = {1, 3, 2, 2};
-        ChairNames x = new ChairNames();
+        Subject x = new Subject();
         for (int what = 0; what < 4; what++) {
             due("set(" + what + ", most)", x.set(what, most[what]), first[what]);
             due("set(" + what + ", least)", x.set(what, least[what]), most[what]);
             due("set(" + what + ", first)", x.set(what, first[what]), least[what]);
             due("count", x.count(20 + what), first[what]);
-            String before = Checks.all(x);
+            String before = x.all();
             due("below", x.set(what, least[what] - 1), INVALID);
             due("above", x.set(what, most[what] + 1), INVALID);
             due("far below", x.set(what, Integer.MIN_VALUE), INVALID);
@@ -568,7 +568,7 @@ public final class PromiseTests {
 
     private static void promise8Mark() {
         promise = "8";
-        ChairNames x = new ChairNames();
+        Subject x = new Subject();
         x.put(A, 5);
         due("mark()", x.mark(), 0);
         x.put(A, 6);
@@ -577,7 +577,7 @@ public final class PromiseTests {
         due("mark()", x.mark(), 1);
         due("mark()", x.mark(), 2);
         due("two marks", x.chairOf(1, 2), 6);
-        String before = Checks.all(x);
+        String before = x.all();
         due("mark()", x.mark(), LIMIT);
         unchanged(x, before);
         due("marks", x.count(7), 3);
@@ -587,8 +587,8 @@ public final class PromiseTests {
 
     private static void promise9Keep() {
         promise = "9";
-        ChairNames x = new ChairNames();
-        String before = Checks.all(x);
+        Subject x = new Subject();
+        String before = x.all();
         due("keep()", x.keep(), IMPOSSIBLE);
         unchanged(x, before);
         x.put(A, 5);
@@ -621,7 +621,7 @@ public final class PromiseTests {
 
     private static void promise10Back() {
         promise = "10";
-        ChairNames x = new ChairNames();
+        Subject x = new Subject();
         due("back(0)", x.back(0), INVALID);
         x.begin(7);
         x.put(A, 5);
@@ -632,7 +632,7 @@ public final class PromiseTests {
         x.mark();
         x.order(MUL, D, A, A);
         x.put(B, 1);
-        String before = Checks.all(x);
+        String before = x.all();
         for (int mark : new int[] {-1, 2, 3, Integer.MIN_VALUE, Integer.MAX_VALUE}) {
             due("back(" + mark + ")", x.back(mark), INVALID);
         }
@@ -657,7 +657,7 @@ public final class PromiseTests {
     }
 
     private static void homesAndUsesOfGoingBack() {
-        ChairNames x = new ChairNames();
+        Subject x = new Subject();
         x.begin(4);
         x.put(A, 1);
         x.put(B, 2);
@@ -680,7 +680,7 @@ public final class PromiseTests {
 
     private static void promise11MarkOf() {
         promise = "11";
-        ChairNames x = new ChairNames();
+        Subject x = new Subject();
         x.begin(3);
         for (int name = 0; name < 4; name++) {
             x.put(name, 10 + name);
@@ -712,7 +712,7 @@ public final class PromiseTests {
 
     private static void promise12NameOf() {
         promise = "12";
-        ChairNames x = new ChairNames();
+        Subject x = new Subject();
         x.put(A, 7);
         x.copy(B, A);
         x.order(MUL, C, A, D);
@@ -742,7 +742,7 @@ public final class PromiseTests {
 
     private static void promise13ChairOf() {
         promise = "13";
-        ChairNames x = new ChairNames();
+        Subject x = new Subject();
         x.put(A, 7);
         x.copy(7, A);
         x.mark();
@@ -782,7 +782,7 @@ public final class PromiseTests {
 
     private static void promise14OrderOf() {
         promise = "14";
-        ChairNames x = new ChairNames();
+        Subject x = new Subject();
         x.begin(7);
         due("orderOf(0, 0)", x.orderOf(0, 0), INVALID);
         x.put(A, 7);
@@ -816,7 +816,7 @@ public final class PromiseTests {
 
     private static void promise15Count() {
         promise = "15";
-        ChairNames x = new ChairNames();
+        Subject x = new Subject();
         x.begin(4);
         x.put(A, 1);
         x.put(B, 2);
@@ -847,12 +847,12 @@ public final class PromiseTests {
 
     private static void promise16Sends() {
         promise = "16";
-        ChairNames x = new ChairNames();
+        Subject x = new Subject();
         x.begin(4);
         for (int name = 0; name < 4; name++) {
             x.put(name, name);
         }
-        String before = Checks.all(x);
+        String before = x.all();
         due("one for the version", x.sends(E, A, B), 1);
         due("none if the name gives up its own", x.sends(D, A, B), 0);
         due("two", x.sends(F, A, E), 2);
@@ -879,7 +879,7 @@ public final class PromiseTests {
 
     private static void promise17IdleIn() {
         promise = "17";
-        ChairNames x = new ChairNames();
+        Subject x = new Subject();
         due("none", x.idleIn(), 0);
         x.put(A, 3);
         x.copy(B, C);
@@ -888,7 +888,7 @@ public final class PromiseTests {
         due("a product", x.idleIn(), 4);
         x.order(ADD, D, D, D);
         due("a sum of it", x.idleIn(), 5);
-        String before = Checks.all(x);
+        String before = x.all();
         x.idleIn();
         unchanged(x, before);
         x.tick(4);
@@ -909,14 +909,14 @@ public final class PromiseTests {
 
     private static void promise18KnownIn() {
         promise = "18";
-        ChairNames x = new ChairNames();
+        Subject x = new Subject();
         due("who stands", x.knownIn(A), 0);
         x.put(A, 3);
         due("a value", x.knownIn(A), 0);
         x.order(MUL, D, A, C);
         due("who sits down", x.knownIn(C), 2);
         due("the product", x.knownIn(D), 5);
-        String before = Checks.all(x);
+        String before = x.all();
         x.knownIn(D);
         unchanged(x, before);
         x.order(ADD, D, A, A);
@@ -933,19 +933,19 @@ public final class PromiseTests {
 
     private static void promise19Undo() {
         promise = "19";
-        ChairNames x = new ChairNames();
+        Subject x = new Subject();
         due("undo()", x.undo(), IMPOSSIBLE);
         String[] states = new String[6];
         x.type('k');
         for (int i = 0; i < 6; i++) {
-            states[i] = withoutHistory(x);
+            states[i] = x.allButHistory();
             due("change " + i, i == 0 ? x.begin(7) : i == 1 ? x.set(2, 3) : i == 2 ? x.mark() : i == 3
                 ? x.order(ADD, A, B, C) : i == 4 ? x.tick(5) : x.back(0), i == 0 ? 5 : i == 1 || i == 3 ? 2 : i == 4 ? 1 : 0);
         }
         due("states", x.count(10), 4);
         for (int i = 5; i >= 2; i--) {
             due("undo()", x.undo(), i - 2);
-            Checks.same("19: state " + i, withoutHistory(x), states[i]);
+            Checks.same("19: state " + i, x.allButHistory(), states[i]);
         }
         due("undo()", x.undo(), IMPOSSIBLE);
         due("errors are no changes", x.put(8, 1), INVALID);
@@ -970,7 +970,7 @@ public final class PromiseTests {
     }
 
     private static void undoAndOtherChanges() {
-        ChairNames x = new ChairNames();
+        Subject x = new Subject();
         x.put(A, 1);
         x.put(A, 2);
         due("undo()", x.undo(), 1);
@@ -990,18 +990,9 @@ public final class PromiseTests {
         }
     }
 
-    /** All but the number of states, which undo changes. */
-    private static String withoutHistory(ChairNames x) {
-        StringBuilder s = new StringBuilder(Checks.all(x));
-        int counts = s.indexOf("counts:") + "counts:".length();
-        String[] words = s.substring(counts, s.indexOf("\n", counts)).trim().split(" ");
-        words[10] = "-";
-        return s.substring(0, counts) + String.join(" ", words) + s.substring(s.indexOf("\n", counts));
-    }
-
     private static void promise20Type() {
         promise = "20";
-        ChairNames x = new ChairNames();
+        Subject x = new Subject();
         for (int character : new int[] {31, 127, 0, -1, 256 + 65, Integer.MIN_VALUE, Integer.MAX_VALUE}) {
             due("type(" + character + ")", x.type(character), INVALID);
         }
@@ -1017,20 +1008,20 @@ public final class PromiseTests {
 
     private static void promise21ClearText() {
         promise = "21";
-        ChairNames x = new ChairNames();
+        Subject x = new Subject();
         due("clearText()", x.clearText(), 0);
-        Checks.typeAll(x, "put a 5;");
+        x.typeAll("put a 5;");
         due("clearText()", x.clearText(), 8);
         due("length", x.count(11), 0);
         due("no command is left", x.play(), 0);
-        Checks.typeAll(x, "mark;");
+        x.typeAll("mark;");
         due("one command", x.play(), 1);
         due("clearText()", x.clearText(), 5);
     }
 
-    private static void fault(ChairNames x, String text, int position, int reason, int cause) {
+    private static void fault(Subject x, String text, int position, int reason, int cause) {
         x.clearText();
-        Checks.typeAll(x, text);
+        x.typeAll(text);
         due("position of " + text, x.fault(0), position);
         due("reason of " + text, x.fault(1), reason);
         due("cause of " + text, x.fault(2), cause);
@@ -1038,7 +1029,7 @@ public final class PromiseTests {
 
     private static void promise22Fault() {
         promise = "22";
-        ChairNames x = new ChairNames();
+        Subject x = new Subject();
         due("fault(-1)", x.fault(-1), INVALID);
         due("fault(3)", x.fault(3), INVALID);
         fault(x, "", MISSING, MISSING, MISSING);
@@ -1059,18 +1050,17 @@ public final class PromiseTests {
             x.order(ADD, B, A, A);
         }
         fault(x, "add b a a;", 0, 2, IMPOSSIBLE);
-        String before = Checks.all(x);
+        String before = x.all();
         x.fault(0);
         unchanged(x, before);
     }
 
     private static void promise22Forms() {
         promise = "22";
-        ChairNames x = new ChairNames();
         String[] good = {"put h 9999;", "put a 0000;", "put b 7;", "copy a h;", "add a b c;", "sub h h h;", "mul d d e;",
             "tick 1;", "tick 0099;", "mark;"};
         for (String text : good) {
-            fault(x, text, MISSING, MISSING, MISSING);
+            fault(new Subject(), text, MISSING, MISSING, MISSING);
         }
         String[] bad = {";", " ", "put a;", "put a ;", "put a 12345;", "put a -1;", "put a b;", "put i 1;", "put A 1;",
             "put a  1;", "put  a 1;", " put a 1;", "put a 1 ;", "put a 1", "puta 1;", "put a1;", "copy a 1;", "copy a;",
@@ -1078,10 +1068,9 @@ public final class PromiseTests {
             "tick;", "tick a;", "tick 1 1;", "mark 0;", "mark ;", "keep 1;", "back;", "back a;", "back 00000;",
             "div a b c;", "tick 1:", "begin 5;", "undo;", "put @ #;", "mar"};
         for (String text : bad) {
-            fault(x, text, 0, 1, MISSING);
-            x = x.count(10) == 0 ? new ChairNames() : x;
+            fault(new Subject(), text, 0, 1, MISSING);
         }
-        x = new ChairNames();
+        Subject x = new Subject();
         fault(x, "mark; mark;", 5, 1, MISSING);
         fault(x, "mark;;", 5, 1, MISSING);
         fault(x, "mark;back 0000;", MISSING, MISSING, MISSING);
@@ -1089,10 +1078,10 @@ public final class PromiseTests {
 
     private static void promise23Play() {
         promise = "23";
-        ChairNames x = new ChairNames();
+        Subject x = new Subject();
         due("no commands", x.play(), 0);
         due("one change all the same", x.count(10), 1);
-        Checks.typeAll(x, "put a 0012;put b 5;sub c b a;mul d a b;copy e d;tick 9;");
+        x.typeAll("put a 0012;put b 5;sub c b a;mul d a b;copy e d;tick 9;");
         due("play()", x.play(), 6);
         due("one change", x.count(10), 2);
         due("the text stays", x.count(11), 55);
@@ -1105,28 +1094,28 @@ public final class PromiseTests {
         due("a", x.nameOf(A, 0), 0);
         due("time", x.count(6), 0);
         x.clearText();
-        Checks.typeAll(x, "mark;put a 3;mark;add b a a;keep;back 0;put c 4;keep;");
+        x.typeAll("mark;put a 3;mark;add b a a;keep;back 0;put c 4;keep;");
         due("a fault at its end", x.fault(0), 48);
-        String before = Checks.all(x);
+        String before = x.all();
         due("play()", x.play(), IMPOSSIBLE);
         unchanged(x, before);
         x.clearText();
-        Checks.typeAll(x, "mark;put a 3;mark;add b a a;keep;back 0;put c 4;");
+        x.typeAll("mark;put a 3;mark;add b a a;keep;back 0;put c 4;");
         due("play()", x.play(), 7);
         due("b stands", x.nameOf(B, 1), MISSING);
         due("no orders", x.count(3), 0);
         due("no marks", x.count(7), 0);
         x.clearText();
-        Checks.typeAll(x, "mark");
+        x.typeAll("mark");
         due("play()", x.play(), IMPOSSIBLE);
     }
 
     /** A command of a text is a use of its own, so its versions are told apart by age. */
     private static void promise23UsesByCommand() {
         promise = "23";
-        ChairNames x = new ChairNames();
+        Subject x = new Subject();
         x.begin(3);
-        Checks.typeAll(x, "put a 1;put b 2;put c 3;put a 4;copy d b;");
+        x.typeAll("put a 1;put b 2;put c 3;put a 4;copy d b;");
         due("play()", x.play(), 5);
         due("c's is the oldest", x.put(E, 5), 2);
         due("then a's", x.put(F, 6), 0);
