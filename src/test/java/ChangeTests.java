@@ -267,6 +267,24 @@ public final class ChangeTests extends DocTest {
         due(x.undo(), 0);
     }
 
+    @Says("A call that returns an error changes nothing.")
+    private static void callsThatReturnAnErrorChangeNothing() {
+        int[][] calls = {{Calls.BEGIN, 2}, {Calls.BEGIN, 8}, {Calls.PUT, A, 10000}, {Calls.PUT, 8, 0}, {Calls.COPY, B, B},
+            {Calls.COPY, F, 8}, {Calls.ORDER, 3, F, G, H}, {Calls.ORDER, ADD, 8, G, H}, {Calls.ORDER, ADD, A, G, 8},
+            {Calls.TICK, 0}, {Calls.TICK, 100}, {Calls.SET, 0, 0}, {Calls.SET, 3, 4}, {Calls.SET, 4, 1}, {Calls.BACK, 1},
+            {Calls.BACK, -1}, {Calls.MARK_OF, 1, A, 0}, {Calls.NAME_OF, 8, 0}, {Calls.CHAIR_OF, 7, 0},
+            {Calls.ORDER_OF, 2, 0}, {Calls.COUNT, 12}, {Calls.SENDS, F, 8, H}, {Calls.KNOWN_IN, 8}, {Calls.TYPE, 31},
+            {Calls.FAULT, 3}};
+        for (int[] call : calls) {
+            refused(after(DocTest::furnish), x -> make(x, call), INVALID);
+        }
+        refused(after(DocTest::furnish), Subject::play, IMPOSSIBLE);
+        refused(after(DocTest::furnish), x -> x.nameOf(D, 0), MISSING);
+        refused(after(DocTest::furnish), x -> x.chairOf(5, 1), MISSING);
+        refused(after(DocTest::furnish), x -> x.orderOf(1, 5), MISSING);
+        refused(after(DocTest::furnish), x -> x.markOf(0, H, 0), MISSING);
+    }
+
     // ---- which error goes before which
 
     @Says("INVALID_ARGUMENT is returned rather than NOT_POSSIBLE")

@@ -122,7 +122,8 @@ abstract class DocTest {
         same("long after " + told, x.all(), twin.all());
     }
 
-    private static int make(Subject x, int[] step) {
+    /** Makes a call that is told by its kind and its arguments. */
+    static int make(Subject x, int[] step) {
         int[] a = new int[5];
         System.arraycopy(step, 0, a, 0, step.length);
         return x.call(a[0], a[1], a[2], a[3], a[4]);

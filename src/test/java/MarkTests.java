@@ -251,9 +251,31 @@ public final class MarkTests extends DocTest {
         due(x.count(3), 3);
     }
 
+    @Says("6: how many marks were there when it was given and are there still")
+    private static void everyOrderWasGivenAfterAMark() {
+        Subject x = new Subject();
+        x.begin(7);
+        x.put(A, 1);
+        x.mark();
+        x.order(MUL, B, A, A);
+        x.mark();
+        x.order(MUL, C, A, A);
+        x.order(MUL, D, A, A);
+        int[] marks = {1, 2, 2};
+        for (int keeps = 0; keeps <= 2; keeps++) {
+            for (int index = 0; index < 3; index++) {
+                due(x.orderOf(index, 6), Math.max(0, marks[index] - keeps));
+            }
+            due(x.keep(), keeps == 2 ? IMPOSSIBLE : 1 - keeps);
+        }
+        x.mark();
+        due(x.back(0), 0);
+        due(x.count(3), 3);
+    }
+
     // ---- back
 
-    @Says("back: Goes back to a mark. mark: its number")
+    @Says("Goes back to a mark. mark: its number")
     private static void noSuchMarkToGoBackTo() {
         for (int marks = 0; marks <= 3; marks++) {
             int none = marks;
@@ -342,6 +364,24 @@ public final class MarkTests extends DocTest {
         due(x.chairOf(2, 4), MISSING);
         due(x.orderOf(0, 1), 1);
         due(x.tick(9), 1);
+    }
+
+    @Says("all orders that were given since are gone")
+    private static void ordersThatAreGoneDoNotBegin() {
+        Subject x = new Subject();
+        x.set(3, 1);
+        x.put(A, 1);
+        x.mark();
+        x.order(ADD, B, A, A);
+        x.order(ADD, C, A, A);
+        due(x.back(0), 2);
+        due(x.order(ADD, D, E, E), 2);
+        due(x.tick(1), 0);
+        due(x.orderOf(0, 4), 0);
+        due(x.count(4), 0);
+        due(x.tick(1), 0);
+        due(x.orderOf(0, 4), 1);
+        due(x.tick(1), 1);
     }
 
     @Says("all orders that were given since are gone")

@@ -6,7 +6,7 @@ public final class QuestionTests extends DocTest {
 
     // ---- nameOf
 
-    @Says("nameOf: Returns something of a name. name: 0 to 7")
+    @Says("Returns something of a name. name: 0 to 7")
     private static void namesToAsk() {
         Subject x = new Subject();
         x.put(A, 5);
@@ -84,7 +84,7 @@ public final class QuestionTests extends DocTest {
 
     // ---- chairOf
 
-    @Says("chairOf: Returns something of a chair. chair: number of the chair")
+    @Says("Returns something of a chair. chair: number of the chair")
     private static void chairsToAsk() {
         for (int chairs = 3; chairs <= 7; chairs++) {
             Subject x = new Subject();
@@ -101,7 +101,7 @@ public final class QuestionTests extends DocTest {
         }
     }
 
-    @Says("chairOf: Returns something of a chair. chair: number of the chair")
+    @Says("Returns something of a chair. chair: number of the chair")
     private static void chairsOfASmallerRoom() {
         Subject x = new Subject();
         fill(x, 7);
@@ -316,6 +316,32 @@ public final class QuestionTests extends DocTest {
         }
     }
 
+    @Says("index: 0 for the one that was given first, and so on")
+    private static void ordersMoveAheadWhole() {
+        Subject x = new Subject();
+        x.begin(7);
+        x.put(A, 5);
+        x.put(B, 3);
+        x.order(ADD, C, A, A);
+        x.mark();
+        x.order(MUL, D, B, A);
+        x.mark();
+        x.order(SUB, E, A, C);
+        due(x.tick(2), 1);
+        int[][] want = {{MUL, 3, 1, 0, 1, 2, 1}, {SUB, 4, 0, 2, 1, 1, 2}};
+        for (int what = 0; what <= 6; what++) {
+            due(x.orderOf(0, what), want[0][what]);
+            due(x.orderOf(1, what), want[1][what]);
+            due(x.orderOf(2, what), INVALID);
+        }
+        due(x.tick(1), 1);
+        due(x.orderOf(0, 0), MUL);
+        due(x.orderOf(0, 5), 1);
+        due(x.orderOf(1, 0), INVALID);
+        due(x.tick(1), 1);
+        due(x.orderOf(0, 0), INVALID);
+    }
+
     @Says("NOT_FOUND for 5 if it has not begun.")
     private static void whenAnOrderIsDue() {
         Subject x = new Subject();
@@ -330,6 +356,25 @@ public final class QuestionTests extends DocTest {
         }
         x.tick(1);
         due(x.orderOf(0, 5), INVALID);
+    }
+
+    @Says("what: 0: 0 add, 1 sub, 2 mul; 1: the chair of its version; 2, 3: the chairs of the versions that it reads")
+    private static void numbersOfEachOrder() {
+        Subject x = new Subject();
+        x.begin(7);
+        x.put(A, 5);
+        x.put(B, 3);
+        x.order(SUB, C, B, A);
+        x.order(MUL, D, A, C);
+        x.mark();
+        x.order(ADD, E, B, B);
+        x.tick(1);
+        int[][] want = {{SUB, 2, 1, 0, 1, 1, 0}, {MUL, 3, 0, 2, 0, MISSING, 0}, {ADD, 4, 1, 1, 1, 1, 1}};
+        for (int index = 0; index < 3; index++) {
+            for (int what = 0; what <= 6; what++) {
+                due(x.orderOf(index, what), want[index][what]);
+            }
+        }
     }
 
     // ---- count
@@ -378,9 +423,41 @@ public final class QuestionTests extends DocTest {
         due(x.count(9), 2);
     }
 
+    @Says("5: orders that were done so far; 6: the time; 7: marks")
+    private static void ordersDoneTimeAndMarks() {
+        Subject x = new Subject();
+        x.put(A, 5);
+        for (int times = 0; times <= 3; times++) {
+            due(x.count(5), times);
+            due(x.count(6), 2 * times);
+            due(x.count(7), times);
+            x.order(ADD, B, A, A);
+            x.tick(2);
+            x.mark();
+        }
+        due(x.count(7), 3);
+    }
+
+    @Says("10: states in the history; 11: the length of the text; 20 to 23: the settings 0 to 3")
+    private static void historyTextAndSettings() {
+        Subject x = new Subject();
+        x.set(0, 6);
+        x.set(1, 7);
+        x.set(2, 8);
+        due(x.count(10), 3);
+        x.set(3, 1);
+        x.typeAll("mark");
+        due(x.count(10), 4);
+        due(x.count(11), 4);
+        due(x.count(20), 6);
+        due(x.count(21), 7);
+        due(x.count(22), 8);
+        due(x.count(23), 1);
+    }
+
     // ---- sends
 
-    @Says("sends: Tells how many versions would be sent out by an order. name: 0 to 7")
+    @Says("Tells how many versions would be sent out by an order. name: 0 to 7, that which is written one: 0 to 7 other: 0 to 7")
     private static void namesOfASupposedOrder() {
         for (int name : NO_NAMES) {
             refused(after(DocTest::furnish), x -> x.sends(name, A, B), INVALID);
@@ -409,6 +486,22 @@ public final class QuestionTests extends DocTest {
         due(x.count(8), 0);
         due(x.order(ADD, D, E, F), 2);
         due(x.count(8), 3);
+    }
+
+    @Says("Tells how many versions would be sent out by an order.")
+    private static void whatWasSentOutBeforeIsNotCounted() {
+        Subject x = new Subject();
+        fill(x, 3);
+        x.put(D, 13);
+        x.put(E, 14);
+        x.put(F, 15);
+        due(x.count(8), 3);
+        due(x.sends(G, D, E), 1);
+        due(x.sends(G, E, F), 1);
+        due(x.sends(G, A, B), 3);
+        due(x.sends(F, D, E), 0);
+        due(x.order(ADD, G, E, F), 0);
+        due(x.count(8), 4);
     }
 
     @Says("Tells how many versions would be sent out by an order.")
@@ -526,7 +619,7 @@ public final class QuestionTests extends DocTest {
         due(x.nameOf(E, 0), 0);
     }
 
-    @Says("knownIn: Tells in how many ticks the value of a name would be known .. name: 0 to 7")
+    @Says("Tells in how many ticks the value of a name would be known, if nothing else happened. name: 0 to 7")
     private static void namesThatAreKnownOrNot() {
         Subject x = new Subject();
         x.copy(A, H);

@@ -25,7 +25,7 @@ public final class RoomTests extends DocTest {
         }
     }
 
-    @Says("there are .. 3 to 7 chairs, numbered from 0 (5 at first).")
+    @Says("3 to 7 chairs, numbered from 0 (5 at first).")
     private static void fiveChairsAtFirst() {
         Subject x = new Subject();
         for (int chair = 0; chair < 5; chair++) {
@@ -64,7 +64,7 @@ public final class RoomTests extends DocTest {
 
     // ---- chairs
 
-    @Says("there are .. 3 to 7 chairs, numbered from 0")
+    @Says("3 to 7 chairs, numbered from 0")
     private static void fewestAndMostChairs() {
         for (int chairs = 3; chairs <= 7; chairs++) {
             Subject x = new Subject();
@@ -159,6 +159,18 @@ public final class RoomTests extends DocTest {
         due(x.count(0), 5);
         due(x.undo(), 2);
         due(x.count(22), 2);
+    }
+
+    @Says("Begins anew: all names stand with the home value 0, there are no orders and marks")
+    private static void beginLeavesTheText() {
+        Subject x = new Subject();
+        x.typeAll("mark;");
+        x.play();
+        x.begin(7);
+        due(x.count(11), 5);
+        due(x.fault(0), MISSING);
+        due(x.play(), 1);
+        due(x.count(7), 1);
     }
 
     // ---- versions
@@ -352,6 +364,19 @@ public final class RoomTests extends DocTest {
             x.order(ADD, B, A, A);
             x.copy(C, D);
         }), x -> x.put(E, 1), IMPOSSIBLE);
+    }
+
+    @Says("Puts a value into a name. name: 0 to 7 value: 0 to 9999 Returns the chair of its version")
+    private static void putReturnsTheChair() {
+        Subject x = new Subject();
+        x.begin(7);
+        for (int chair = 0; chair < 7; chair++) {
+            due(x.put(H - chair, chair), chair);
+            due(x.nameOf(H - chair, 1), chair);
+        }
+        x.copy(E, D);
+        due(x.put(A, 9), 3);
+        due(x.nameOf(A, 1), 3);
     }
 
     // ---- copy

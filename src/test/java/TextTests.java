@@ -114,11 +114,11 @@ public final class TextTests extends DocTest {
         due(x.play(), 1);
     }
 
-    @Says("clearText: Empties the text.")
+    @Says("Empties the text.")
     private static void nothingIsLeftBehindAClearedText() {
         Subject x = new Subject();
-        x.typeAll("tick 12;");
-        x.clearText();
+        x.typeAll("tick 1;tick 2;");
+        due(x.clearText(), 14);
         x.typeAll("tick 1");
         due(x.fault(1), 1);
         due(x.type(';'), 7);
