@@ -474,7 +474,7 @@ public final class OrderTests extends DocTest {
     }
 
     /** Six orders that are not done hold six versions, and the first of them reads a seventh. */
-    @Says("NOT_POSSIBLE rather than LIMIT_REACHED")
+    @Says("NOT_POSSIBLE if there are not chairs enough; LIMIT_REACHED if 6 orders are not done.")
     private static void aSeventhOrderHasNoChair() {
         refused(after(x -> {
             x.begin(7);
@@ -490,13 +490,19 @@ public final class OrderTests extends DocTest {
                 x.order(ADD, B, A, A);
             }
         }), x -> x.order(ADD, B, A, A), IMPOSSIBLE);
+    }
+
+    @Says("At most 6 orders are not done.")
+    private static void anOrderAfterOneOfSixIsDone() {
         Subject x = new Subject();
         x.begin(7);
         x.put(A, 5);
         for (int i = 0; i < 6; i++) {
             x.order(ADD, A, A, A);
         }
-        x.tick(2);
+        x.tick(1);
+        due(x.order(ADD, A, A, A), IMPOSSIBLE);
+        x.tick(1);
         due(x.count(3), 5);
         due(x.order(ADD, A, A, A), 0);
         due(x.count(3), 6);
