@@ -38,6 +38,20 @@ final class Calls {
         return NAMES.length;
     }
 
+    /** The number of a call, -1 if there is none of this name with so many arguments. */
+    static int kindOf(String name, int arguments) {
+        for (int kind = 0; kind < NAMES.length; kind++) {
+            if (NAMES[kind].equals(name) && ARGUMENTS[kind] == arguments) {
+                return kind;
+            }
+        }
+        return -1;
+    }
+
+    static String nameOf(int kind) {
+        return NAMES[kind];
+    }
+
     /** A call as it would be written; arguments that it doesn't take are left out. */
     static String told(int kind, int a, int b, int c, int d) {
         int[] all = {a, b, c, d};

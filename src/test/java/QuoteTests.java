@@ -8,12 +8,11 @@ public final class QuoteTests {
     private static final String LEFT_OUT = " .. ";
 
     public static void main(String[] args) throws IOException {
-        Path file = Path.of(System.getProperty("doc", "../shared/DOC.md"));
-        if (!Files.isRegularFile(file)) {
+        String document = plain(document());
+        if (document.isEmpty()) {
             System.out.println("QuoteTests: there is no document to compare with");
             return;
         }
-        String document = plain(Files.readString(file));
         int quotes = 0;
         for (Class<?> tests : DocTest.ALL) {
             for (Method test : DocTest.testsOf(tests)) {
@@ -24,6 +23,12 @@ public final class QuoteTests {
             }
         }
         Checks.end("QuoteTests (" + quotes + " quotes)");
+    }
+
+    /** The document as it stands, empty if it is not there. */
+    static String document() throws IOException {
+        Path file = Path.of(System.getProperty("doc", "../shared/DOC.md"));
+        return Files.isRegularFile(file) ? Files.readString(file) : "";
     }
 
     private static boolean stands(String document, String quote) {
@@ -39,7 +44,7 @@ public final class QuoteTests {
     }
 
     /** A text without its marks of form, and with single blanks. */
-    private static String plain(String text) {
+    static String plain(String text) {
         return text.replace("`", "").replace("- ", "").replaceAll("\\s+", " ").trim();
     }
 }
